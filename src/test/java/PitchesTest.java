@@ -24,6 +24,7 @@ final class PitchesTest {
         planFindings();
         planGaps();
         planNear();
+        planTwice();
         planFirst();
         apart();
         Due.end();
@@ -149,6 +150,11 @@ final class PitchesTest {
         Due.due("6 party full", x.party(0, 100, 0, 501), Due.FULL);
         Due.due("6 beyond ahead of full", x.party(5, 100, 0, 501), Due.BEYOND);
         Due.due("6 count", x.count(2), 24);
+        FieldPitches y = new FieldPitches();
+        y.nights(50);
+        y.nights(49);
+        Due.due("6 party of yesterday, late", y.party(0, 100, 0, 9801), Due.BEYOND);
+        Due.due("6 party of today, late", y.party(0, 100, 0, 9901), 0);
     }
 
     private static void partyOf() {
@@ -456,6 +462,43 @@ final class PitchesTest {
         z.near(2, 0);
         Due.due("14 gaps ahead of far", z.plan(4), 1);
         Due.due("14 pitch 2 would have a gap", z.partyOf(2, 6), 1);
+    }
+
+    /** Two that wish for each other count twice, be the other one in the set or not. */
+    private static void planTwice() {
+        FieldPitches x = plainField(4);
+        stay(x, 0, 5, 1);
+        stay(x, 3, 5, 1);
+        x.party(0, 100, 0, 501);
+        x.near(0, 2);
+        x.near(1, 2);
+        x.near(2, 1);
+        Due.due("14 twice to one, once to another", x.plan(4), 1);
+        Due.due("14 nearer to the one", x.partyOf(2, 6), 2);
+        FieldPitches y = new FieldPitches();
+        for (int p = 0; p < 4; p++) {
+            y.pitch(100 * p, p == 3 ? 3000 : 1000, 32, 70);
+        }
+        stay(y, 0, 5, 1);
+        y.party(0, 500, 0, 501);
+        y.party(0, 2500, 0, 501);
+        y.near(0, 1);
+        y.near(1, 2);
+        y.near(2, 1);
+        Due.due("14 twice to one of the set", y.plan(6), 2);
+        Due.due("14 nearer to it", y.partyOf(1, 6), 2);
+        Due.due("14 it fits one alone", y.partyOf(2, 6), 3);
+        FieldPitches z = new FieldPitches();
+        z.pitch(0, 1000, 32, 70);
+        z.pitch(500, 1000, 32, 70);
+        z.party(0, 2000, 0, 501);
+        z.party(0, 1000, 0, 501);
+        z.near(0, 1);
+        z.near(1, 0);
+        Due.due("14 one fits none", z.plan(3), 1);
+        Due.due("14 it waits", z.partyOf(0, 6), -1);
+        Due.due("14 the other isn't bound", z.partyOf(1, 6), 0);
+        Due.due("14 apart", z.apart(), 0);
     }
 
     private static void planFirst() {
