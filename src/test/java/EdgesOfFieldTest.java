@@ -104,6 +104,7 @@ final class EdgesOfFieldTest {
 
     private static void places() {
         Edge.bounds("1: x", Edge::busy, (x, v) -> x.pitch(100 * v + 7, 100, 0, 0), 0, 99);
+        Edge.bounds("1: x with y 0", Edge::busy, (x, v) -> x.pitch(100 * v, 100, 0, 0), 0, 99);
         Edge.range("1: x and y", Edge::busy, (x, v) -> x.pitch(v, 100, 0, 0), 0, 9999);
         pitchHas("x", 0, 0, 99, 100, 0, 0);
         pitchHas("x", 0, 1, 100, 100, 0, 0);
@@ -115,6 +116,7 @@ final class EdgesOfFieldTest {
 
     private static void lengthAndHeight() {
         Edge.bounds("1: LENGTH", Edge::busy, (x, v) -> x.pitch(0, 100 * v + 50, 0, 0), 1, 30);
+        Edge.bounds("1: LENGTH with HEIGHT 0", Edge::busy, (x, v) -> x.pitch(0, 100 * v, 0, 0), 1, 30);
         Edge.range("1: LENGTH and HEIGHT", Edge::busy, (x, v) -> x.pitch(0, v, 0, 0), 100, 3099);
         pitchHas("LENGTH", 2, 1, 0, 199, 0, 0);
         pitchHas("LENGTH", 2, 30, 0, 3000, 0, 0);
@@ -126,6 +128,7 @@ final class EdgesOfFieldTest {
 
     private static void shadeAndAmps() {
         Edge.bounds("1: SHADE", Edge::busy, (x, v) -> x.pitch(0, 100, 100 * v + 5, 0), 0, 9);
+        Edge.bounds("1: SHADE with AMPS 0", Edge::busy, (x, v) -> x.pitch(0, 100, 100 * v, 0), 0, 9);
         Edge.bounds("1: AMPS", Edge::busy, (x, v) -> x.pitch(0, 100, 300 + v, 0), 0, 32);
         Edge.bounds("1: AMPS with SHADE 0", Edge::busy, (x, v) -> x.pitch(0, 100, v, 0), 0, 32);
         Edge.range("1: AMPS with SHADE 9", Edge::busy, (x, v) -> x.pitch(0, 100, v, 0), 900, 932);
@@ -138,12 +141,14 @@ final class EdgesOfFieldTest {
 
     private static void flagsAndPost() {
         Edge.bounds("1: FLAGS", Edge::busy, (x, v) -> x.pitch(0, 100, 0, 10 * v + 2), 0, 7);
+        Edge.bounds("1: FLAGS with POST 0", Edge::busy, (x, v) -> x.pitch(0, 100, 0, 10 * v), 0, 7);
         Edge.bounds("1: POST", Edge::busy, (x, v) -> x.pitch(0, 100, 0, 20 + v), 0, 3);
         Edge.bounds("1: POST without FLAGS", Edge::busy, (x, v) -> x.pitch(0, 100, 0, v), 0, 3);
         Edge.range("1: POST with all FLAGS", Edge::busy, (x, v) -> x.pitch(0, 100, 0, v), 70, 73);
         Edge.refused("1: POST 9", Edge::busy, x -> x.pitch(0, 100, 0, 59), Due.BEYOND);
         pitchHas("FLAGS", 6, 0, 0, 100, 0, 3);
         pitchHas("FLAGS", 6, 7, 0, 100, 0, 70);
+        pitchHas("FLAGS", 6, 7, 0, 100, 0, 73);
         pitchHas("POST", 7, 0, 0, 100, 0, 70);
         pitchHas("POST", 7, 3, 0, 100, 0, 73);
     }
@@ -189,6 +194,7 @@ final class EdgesOfFieldTest {
 
     private static void partyLengthAndAmps() {
         Edge.bounds("1: LENGTH", Edge::busy, (x, v) -> x.party(0, 100 * v + 10, 0, 501), 1, 30);
+        Edge.bounds("1: LENGTH with AMPS 0", Edge::busy, (x, v) -> x.party(0, 100 * v, 0, 501), 1, 30);
         Edge.bounds("1: AMPS", Edge::busy, (x, v) -> x.party(0, 500 + v, 0, 501), 0, 32);
         Edge.range("1: AMPS with LENGTH 30", Edge::busy, (x, v) -> x.party(0, v, 0, 501), 3000, 3032);
         Edge.refused("1: AMPS 99", Edge::busy, x -> x.party(0, 599, 0, 501), Due.BEYOND);

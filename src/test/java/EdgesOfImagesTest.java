@@ -16,11 +16,13 @@ final class EdgesOfImagesTest {
         imageWithoutSheets();
         imageOfNew();
         imageOfFull();
+        imageOfReviews();
         keptLatest();
         keptStays();
         undoNone();
         undoTwice();
         undoOfFewer();
+        undoneIsNowhere();
         tear();
         tearOnly();
         count();
@@ -85,12 +87,16 @@ final class EdgesOfImagesTest {
         takenBack("TODAY", x -> x.nights(30));
         takenBack("a PITCH", x -> x.pitch(9999, 3099, 932, 73));
         takenBack("SHADE", x -> x.shade(1, 0));
+        takenBack("SHADE of the first", x -> x.shade(0, 9));
+        takenBack("SHADE of the last", x -> x.shade(2, 9));
         takenBack("a REVIEW", x -> Edge.until(x, 5).review(3, 1));
     }
 
     private static void imageOfParties() {
         takenBack("a PARTY", x -> x.party(3, 100, 7, 2030));
         takenBack("NEAR", x -> x.near(1, 0));
+        takenBack("NEAR of the first", x -> x.near(0, 6));
+        takenBack("NEAR of the last", x -> x.near(6, 0));
         takenBack("NEAR nobody", x -> x.near(1, -1));
         takenBack("put", x -> x.put(4, 0));
         takenBack("a PARTY and put", x -> x.put(x.party(0, 100, 0, 5001), 2));
@@ -178,6 +184,24 @@ final class EdgesOfImagesTest {
         Due.due("42: the last WASHER too", x.block(1, 1), 101);
     }
 
+    /** REVIEWS of one PITCH, one ahead of the image and one behind it. */
+    private static void imageOfReviews() {
+        FieldPitches x = Edge.plain(1);
+        Edge.on(x, 0, 0, 1);
+        Edge.on(x, 0, 1, 1);
+        Edge.until(x, 5);
+        x.review(0, 5);
+        x.image();
+        for (int stars = 1; stars <= 5; stars++) {
+            Due.due("42: its stars are taken back", x.stars(0), 500);
+            Due.due("42: it gave none", x.review(1, stars), 2);
+            Due.due("42: both", x.stars(0), (500 + 100 * stars) / 2);
+            Due.due("42: it gave one", x.review(1, 3), Due.STATE);
+            x.undo();
+            Due.due("42: the other gave one", x.review(0, 3), Due.STATE);
+        }
+    }
+
     private static void keptLatest() {
         FieldPitches x = Edge.plain(1);
         x.image();
@@ -248,6 +272,34 @@ final class EdgesOfImagesTest {
         x.nights(1);
         Due.due("42: it can give a REVIEW", x.review(0, 1), 1);
         Due.due("42: its own alone", x.stars(0), 100);
+    }
+
+    /** A PARTY that was taken back is nowhere. */
+    private static void undoneIsNowhere() {
+        FieldPitches x = Edge.plain(2);
+        Edge.on(x, 0, 0, 1);
+        Due.tell(x, 0, "o");
+        x.sheet(0, 8, 3);
+        Due.row(x, 0, 0, 0, 2, 1);
+        x.image();
+        Edge.on(x, 0, 2, 1);
+        x.use(1, 1, 40);
+        x.near(1, 0);
+        Due.due("42: a GAP", x.gaps(0), 1);
+        x.undo();
+        Due.due("42: no GAP", x.gaps(0), 0);
+        Due.due("42: nobody is ON it", x.who(0, 2), -1);
+        Due.due("42: it is FREE", x.join(0), -1);
+        Due.due("42: none waits", x.count(7), 0);
+        x.nights(2);
+        Due.due("42: nobody is HERE", x.count(6), 0);
+        Due.due("42: no LOAD", x.load(0, 0), 0);
+        Due.due("42: nobody is WET", x.wet(1), 0);
+        Due.due("42: nor is rescued", x.rescue(1, -1), 0);
+        Due.due("42: no plan for it", x.plan(2), Due.BEYOND);
+        Due.due("42: another one comes", x.party(0, 100, 0, 201), 1);
+        Due.due("42: with no others", x.says(0, 1), 0);
+        Due.due("42: where it was", x.put(1, 0), -1);
     }
 
     private static void tear() {

@@ -149,6 +149,14 @@ final class EdgesOfMoneyTest {
         FieldPitches y = new FieldPitches();
         Due.tell(y, 0, "+");
         Due.due("18: no LAW has a TEXT", y.repeal(0), 0);
+        Edge.unchanged("18: with a FAULT", EdgesOfMoneyTest::wiped, z -> Due.tell(z, 0, "7+"));
+        Edge.unchanged("18: with a FAULT at the end", EdgesOfMoneyTest::wiped, z -> Due.tell(z, 1, "(7)8"));
+    }
+
+    private static FieldPitches wiped() {
+        FieldPitches x = Edge.busy();
+        x.wipe();
+        return x;
     }
 
     private static void lawInPlace() {
@@ -158,6 +166,9 @@ final class EdgesOfMoneyTest {
         Due.due("18: a short TEXT in place of a long one", x.says(0, 0), 5);
         Due.tell(x, 0, "2*3*4");
         Due.due("18: a longer one", x.says(0, 0), 24);
+        Due.tell(x, 0, "-1");
+        Due.tell(x, 0, "5");
+        Due.due("18: nothing is left of a -", x.says(0, 0), 5);
     }
 
     private static void repeal() {

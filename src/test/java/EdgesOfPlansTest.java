@@ -26,6 +26,16 @@ final class EdgesOfPlansTest {
         farOfOthers();
         farOfThoseThatWait();
         farTwice();
+        farOfMembers();
+        farOfMembersThatWished();
+        farOfMembersTwice();
+        farOfMembersOnce();
+        oldPlacesDontCount();
+        filledLater();
+        filledTwice();
+        filledOnFirstPitch();
+        mostFoundLater();
+        lateNights();
         leastPitches();
         waitingIsLast();
         firstByParties();
@@ -296,6 +306,195 @@ final class EdgesOfPlansTest {
         places("the nearest to that", x, 2, 10);
     }
 
+    /** PITCHES at these places along x. */
+    private static FieldPitches along(int... places) {
+        FieldPitches x = new FieldPitches();
+        for (int place : places) {
+            x.pitch(100 * place, 3000, 32, 70);
+        }
+        return x;
+    }
+
+    private static void members(FieldPitches x, int parties) {
+        for (int p = 0; p < parties; p++) {
+            x.party(0, 100, 0, 501);
+        }
+    }
+
+    private static void farOfMembers() {
+        FieldPitches x = along(0, 50, 51);
+        members(x, 2);
+        Due.due("3: nobody wishes", x.plan(3), 2);
+        places("the first", x, 0, 0, 1);
+        x.near(0, 1);
+        Due.due("3: the first wishes to be NEAR the second", x.plan(3), 2);
+        places("the nearest", x, 0, 1, 2);
+        x.near(0, -1);
+        x.near(1, 0);
+        Due.due("3: the second wishes to be NEAR the first", x.plan(3), 2);
+        places("the nearest", x, 0, 1, 2);
+    }
+
+    private static void farOfMembersThatWished() {
+        FieldPitches x = along(0, 50, 90, 51, 91, 20);
+        members(x, 4);
+        x.near(3, 1);
+        Due.due("3: the last wishes to be NEAR the second", x.plan(15), 4);
+        places("those two side by side", x, 0, 0, 1, 2, 3);
+        x.near(3, 0);
+        Due.due("3: the last wishes to be NEAR the first", x.plan(15), 4);
+        places("those two side by side", x, 0, 1, 0, 2, 3);
+    }
+
+    private static void farOfMembersTwice() {
+        FieldPitches x = along(0, 10, 14, 20);
+        members(x, 3);
+        x.put(2, 0);
+        x.near(2, 0);
+        x.near(0, 1);
+        x.near(1, 0);
+        // the third stays on 0: 10 + 2 * 4 on 1 and 2, 14 + 2 * 4 on 2 and 1, 14 + 2 * 6 on 2 and 3
+        Due.due("3: twice to each other, once to another", x.plan(3), 2);
+        places("the least together", x, 0, 1, 2);
+        FieldPitches y = along(0, 10, 19, 21);
+        members(y, 3);
+        y.put(2, 0);
+        y.near(2, 0);
+        y.near(0, 1);
+        y.near(1, 0);
+        // 10 + 2 * 9 on 1 and 2, 19 + 2 * 2 on 2 and 3
+        Due.due("3: twice counts more", y.plan(3), 2);
+        places("the least together", y, 0, 2, 3);
+    }
+
+    private static void farOfMembersOnce() {
+        FieldPitches x = along(0, 10, 19, 21);
+        members(x, 3);
+        x.put(2, 0);
+        x.near(2, 0);
+        x.near(0, 1);
+        // 10 + 9 on 1 and 2, 19 + 2 on 2 and 3
+        Due.due("3: once counts less", x.plan(3), 2);
+        places("the least together", x, 0, 1, 2);
+        FieldPitches y = along(0, 10);
+        members(y, 3);
+        y.near(0, 2);
+        y.near(2, 0);
+        Due.due("3: one of three has to wait", y.plan(7), 2);
+        places("the one that brings no FAR", y, 0, 0, 1, -1);
+        FieldPitches z = along(0, 50, 51);
+        z.party(0, 100, 0, 501);
+        z.party(0, 100, 0, 501);
+        z.party(0, 100, 0, 501);
+        z.put(2, 1);
+        z.near(0, 1);
+        z.near(1, 2);
+        z.near(2, 0);
+        // the third stays on 1: 51 + 1 + 50 either way
+        Due.due("3: all in a ring", z.plan(3), 2);
+        places("the first", z, 0, 0, 2);
+    }
+
+    private static void oldPlacesDontCount() {
+        FieldPitches x = Edge.plain(12);
+        members(x, 2);
+        x.near(0, 1);
+        x.near(1, 0);
+        x.put(0, 10);
+        x.put(1, 11);
+        Due.due("3: where members were doesn't count", x.plan(3), 2);
+        places("the first", x, 0, 0, 1);
+        FieldPitches y = Edge.plain(12);
+        y.party(0, 100, 0, 501);
+        y.party(0, 100, 0, 501);
+        y.near(0, 1);
+        y.put(1, 11);
+        Due.due("3: nor for one that waited", y.plan(3), 2);
+        places("the first", y, 0, 0, 1);
+    }
+
+    /** The first makes a GAP that the second fills, behind ways without one that were FARther. */
+    private static void filledLater() {
+        FieldPitches x = Edge.plain(2);
+        Edge.on(x, 1, 5, 1);
+        x.party(0, 100, 0, 701);
+        x.party(0, 100, 0, 601);
+        x.near(1, 0);
+        x.near(2, 0);
+        Due.due("3: both beside it", x.plan(6), 2);
+        places("no GAP, no FAR", x, 1, 1, 1);
+        FieldPitches y = Edge.plain(2);
+        Edge.on(y, 1, 5, 1);
+        y.party(0, 100, 0, 701);
+        y.party(0, 100, 0, 602);
+        y.near(1, 0);
+        y.near(2, 0);
+        Due.due("3: the second stays two NIGHTS", y.plan(6), 2);
+        places("it fills nothing", y, 1, 0, 1);
+    }
+
+    /** The first makes two GAPS, the others fill them. */
+    private static void filledTwice() {
+        FieldPitches x = Edge.plain(2);
+        Edge.on(x, 1, 5, 1);
+        Edge.on(x, 1, 9, 1);
+        x.party(0, 100, 0, 701);
+        x.party(0, 100, 0, 601);
+        x.party(0, 100, 0, 801);
+        for (int p = 2; p <= 4; p++) {
+            x.near(p, 0);
+        }
+        Due.due("3: all beside it", x.plan(28), 3);
+        places("no GAPS, no FAR", x, 2, 1, 1, 1);
+        Due.due("3: no GAPS", x.gaps(-1), 0);
+    }
+
+    /** The second and the third FIT PITCH 0 alone; the first one's last way is the best. */
+    private static void filledOnFirstPitch() {
+        FieldPitches x = new FieldPitches();
+        x.pitch(0, 1000, 32, 70);
+        x.pitch(5000, 3000, 32, 30);
+        x.pitch(9000, 3000, 32, 30);
+        Edge.on(x, 0, 5, 1);
+        Edge.on(x, 2, 50, 1);
+        x.party(0, 2000, 0, 2001);
+        x.party(2, 100, 4, 701);
+        x.party(2, 100, 4, 601);
+        x.near(2, 1);
+        Due.due("3: all three", x.plan(28), 3);
+        places("the least FAR", x, 2, 2, 0, 0);
+    }
+
+    /** The first way has 2; that in which the first one waits has 3. */
+    private static void mostFoundLater() {
+        FieldPitches x = new FieldPitches();
+        x.pitch(0, 3000, 32, 70);
+        x.pitch(0, 500, 32, 70);
+        x.party(0, 1000, 0, 505);
+        x.party(0, 1000, 0, 501);
+        x.party(0, 1000, 0, 701);
+        x.party(0, 500, 0, 901);
+        Due.due("3: the most of them", x.plan(15), 3);
+        places("the first one waits", x, 0, -1, 0, 0, 1);
+        Due.due("3: and once more", x.plan(15), 3);
+        places("the same", x, 0, -1, 0, 0, 1);
+    }
+
+    /** All ways are tried anew in late NIGHTS too. */
+    private static void lateNights() {
+        for (int first : new int[] {1, 30, 62, 63, 64, 65, 97}) {
+            FieldPitches x = new FieldPitches();
+            x.pitch(0, 3000, 32, 70);
+            x.pitch(5000, 500, 32, 70);
+            x.pitch(5100, 3000, 32, 70);
+            x.party(0, 500, 0, 100 * first + 3);
+            x.party(0, 1000, 0, 100 * first + 2);
+            x.near(0, 1);
+            Due.due("3: from NIGHT " + first + " on", x.plan(3), 2);
+            places("side by side from " + first + " on", x, 0, 1, 2);
+        }
+    }
+
     private static void leastPitches() {
         FieldPitches x = crowd(12, 4);
         Due.due("3: each the least PITCH", x.plan(15), 4);
@@ -349,5 +548,10 @@ final class EdgesOfPlansTest {
         places("the same", x, 0, 0, 1, 2);
         Due.due("3: one of them alone", x.plan(4), 1);
         places("it stays", x, 2, 2);
+        FieldPitches y = crowd(12, 4);
+        for (int set : new int[] {15, 7, 3, 1, 3, 7, 15}) {
+            Due.due("3: some of them", y.plan(set), Integer.bitCount(set));
+            places("the first ones", y, 0, 0, 1, 2, 3);
+        }
     }
 }

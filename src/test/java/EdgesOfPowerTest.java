@@ -31,6 +31,10 @@ final class EdgesOfPowerTest {
         rescueOneEach();
         rescueMost();
         rescueFirst();
+        rescueToFirstAndLast();
+        rescueChain();
+        rescueNowhere();
+        rescueOfFewer();
         rescueGreatest();
         Due.end();
     }
@@ -305,6 +309,8 @@ final class EdgesOfPowerTest {
         Edge.refused("31: it was CANCELLED", Edge::busy, x -> x.rescue(21, 5), Due.NONE);
         Edge.answers("31: nobody is moved", Edge::busy, x -> x.rescue(21, -1), 0);
         Edge.answers("31: without PARTIES", FieldPitches::new, x -> x.rescue(99, -1), 0);
+        Edge.answers("31: 24 that aren't HERE", Edge::full, x -> x.rescue(99, -1), 0);
+        Edge.refused("31: the last of 24", Edge::full, x -> x.rescue(99, 23), Due.NONE);
         Edge.refused("31: without PARTIES", FieldPitches::new, x -> x.rescue(99, 0), Due.BEYOND);
     }
 
@@ -400,6 +406,74 @@ final class EdgesOfPowerTest {
         Edge.on(x, 0, 0, 1);
         Due.due("4: by PARTIES, each the least PITCH", x.rescue(9, 0), 2);
         Due.due("4: the second", x.rescue(9, 1), 3);
+    }
+
+    /** PITCHES 0 and 11 are like others. */
+    private static void rescueToFirstAndLast() {
+        FieldPitches x = new FieldPitches();
+        for (int p = 0; p < 12; p++) {
+            place(x, 10, p == 0 || p == 11 ? 50 : 0);
+        }
+        for (int p = 1; p <= 3; p++) {
+            Edge.on(x, p, 0, 1);
+        }
+        Due.due("4: two PITCHES for three", x.rescue(50, -1), 2);
+        Due.due("4: PITCH 0", x.rescue(50, 0), 0);
+        Due.due("4: PITCH 11", x.rescue(50, 1), 11);
+        Due.due("4: none", x.rescue(50, 2), Due.NONE);
+        Edge.on(x, 11, 0, 1);
+        Due.due("4: PITCH 0 alone", x.rescue(50, -1), 1);
+        Due.due("4: it is given once", x.rescue(50, 1), Due.NONE);
+    }
+
+    /** PITCHES 6 to 11 have LENGTHS 6 down to 1, PARTIES 0 to 5 have LENGTHS 1 up to 6: each must leave its first one. */
+    private static void rescueChain() {
+        FieldPitches x = new FieldPitches();
+        for (int p = 0; p < 12; p++) {
+            place(x, p < 6 ? 30 : 12 - p, p < 6 ? 0 : 9);
+        }
+        for (int p = 0; p < 6; p++) {
+            x.party(0, 100 * (p + 1), 0, 1);
+            x.put(p, p);
+        }
+        Due.due("4: as many as can be", x.rescue(9, -1), 6);
+        for (int p = 0; p < 6; p++) {
+            Due.due("4: PARTY " + p, x.rescue(9, p), 11 - p);
+        }
+    }
+
+    private static void rescueNowhere() {
+        FieldPitches x = new FieldPitches();
+        place(x, 10, 0);
+        place(x, 10, 0);
+        place(x, 10, 0);
+        place(x, 5, 9);
+        place(x, 4, 9);
+        int[] lengths = {6, 5, 4};
+        for (int p = 0; p < 3; p++) {
+            x.party(0, 100 * lengths[p], 0, 1);
+            x.put(p, p);
+        }
+        Due.due("4: one FITS none, two are moved", x.rescue(9, -1), 2);
+        Due.due("4: the first goes nowhere", x.rescue(9, 0), Due.NONE);
+        Due.due("4: the second goes", x.rescue(9, 1), 3);
+        Due.due("4: the third goes", x.rescue(9, 2), 4);
+    }
+
+    /** What one water asked for isn't left over to another. */
+    private static void rescueOfFewer() {
+        FieldPitches x = new FieldPitches();
+        place(x, 10, 0);
+        place(x, 10, 5);
+        place(x, 10, 50);
+        place(x, 10, 50);
+        Edge.on(x, 0, 0, 1);
+        Edge.on(x, 1, 0, 1);
+        Due.due("4: two are WET", x.rescue(50, -1), 2);
+        Due.due("4: one is WET", x.rescue(3, -1), 1);
+        Due.due("4: none is WET", x.rescue(0, -1), 0);
+        Due.due("4: it isn't WET now", x.rescue(3, 1), Due.NONE);
+        Due.due("4: two are WET again", x.rescue(6, -1), 2);
     }
 
     private static void rescueGreatest() {

@@ -83,6 +83,7 @@ final class EdgesOfTextsTest {
         Edge.refused("2: THE TAPE, at most 120", Edge::full, y -> y.feed('8', 1), Due.FULL);
         takes("120 TOKENS but one", "1" + "+1".repeat(59), 60);
         faulty("120 TOKENS", "1" + "+1".repeat(59) + "+", 120);
+        worth("120 TOKENS that are a TEXT", "-1" + "+1".repeat(59), 58);
     }
 
     private static void tokensAreLong() {
@@ -434,6 +435,7 @@ final class EdgesOfTextsTest {
         int[] due = {1, 0, 0, 0, 1, 0, 1, 0, 1, 1};
         for (int i = 0; i < texts.length; i++) {
             worth("1 or 0", texts[i], due[i]);
+            worth("1 or 0", "5+(" + texts[i] + ")", 5 + due[i]);
         }
         worth("the least int is less", "4096*4096*128<4096*4096*127", 1);
         worth("no difference that wraps", "4096*4096*127<4096*4096*128", 0);

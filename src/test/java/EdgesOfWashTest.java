@@ -292,6 +292,10 @@ final class EdgesOfWashTest {
         joins("up to the NIGHT ahead", -1, 1, 5, 5);
         joins("from the NIGHT behind on", -1, 1, 15, 30);
         joins("on another PITCH", -1, 0, 10, 5);
+        for (int night = 0; night <= 99; night++) {
+            joins("NIGHT " + night + " twice", 1, 2, night, 1, 2, night, 1);
+            joins("NIGHT " + night + " on two PITCHES", -1, 0, night, 1, 2, night, 1);
+        }
     }
 
     private static void joinRowsAhead() {
